@@ -109,8 +109,8 @@ public final class ScriptTest {
     private static void wrongGroups() {
         PassedTraits x = land();
         String[] wrong = {"000000", "000001", "099999", "100001", "100010", "100100", "101000", "110000", "202110",
-            "202950", "312001", "312010", "312100", "601001", "601010", "601100", "710101", "711001", "720199", "718099",
-            "800101", "801001", "810001", "809099"};
+            "202950", "312001", "312010", "312100", "601001", "601010", "601100", "710100", "710101", "711001", "720199", "718099",
+            "800100", "800101", "801001", "810001", "809099"};
         for (String group : wrong) {
             fails(x, group, 0);
         }
@@ -160,7 +160,7 @@ public final class ScriptTest {
 
     /** A simulation is the calls that the document tells, so these on an object of its own answer the same. */
     private static void played() {
-        for (long seed = 0; seed < 60; seed++) {
+        for (long seed = 0; seed < 2000; seed++) {
             PassedTraits x = Build.towns(6);
             int simulated = x.simulate(seed, 99);
             long number = seed;

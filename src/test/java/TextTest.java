@@ -99,6 +99,10 @@ public final class TextTest {
         Due.refused("promise 13: no reports", IllegalStateException.class, x, x::seeAll);
         Due.equal("promise 13: nothing of it is taken down", -1, x.report(0, 0, true));
         Due.equal("promise 13: what throws is no action", 2, x.undo());
+        PassedTraits one = Build.written("0+0:5");
+        one.found();
+        Due.equal("promise 13: one report", 0, one.seeAll());
+        Due.equal("promise 13: its year", 5, one.report(0, 0, true));
         PassedTraits none = Build.written("0+0:1;4-1:2");
         Due.equal("promise 13: without towns all are left out", 2, none.seeAll());
         Due.equal("promise 13: that is an action too", 0, none.undo());
