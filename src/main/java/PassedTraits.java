@@ -1,6 +1,6 @@
 import java.util.Arrays;
 
-/** Traits that are passed along roads between towns, and the fewest inventions that explain what is reported of them. */
+/** Traits that are passed along roads between towns, and the fewest inventions that explain the reports of them. */
 public final class PassedTraits {
     public static final int NONE = -1;
 
@@ -802,7 +802,7 @@ public final class PassedTraits {
             }
         }
 
-        /** Passes the trait on along all roads, as early as can be. No way visits a town twice, so the rounds suffice. */
+        /** Passes the trait on along all roads. The earliest way visits no town twice, so the rounds suffice. */
         private void spread() {
             boolean changed = true;
             for (int round = 0; round < towns && changed; round++) {
