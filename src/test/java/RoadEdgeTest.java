@@ -25,6 +25,7 @@ public final class RoadEdgeTest {
         dearestLeast();
         dearestBothKinds();
         dearestContradiction();
+        dearestForgetsOneAtATime();
         Due.end();
     }
 
@@ -357,5 +358,28 @@ public final class RoadEdgeTest {
         Due.equal("promise 24: nothing now, one then", NONE, x.dearest());
         x.see(2, 5, 5, true);
         Due.equal("promise 24: another trait", 25, x.dearest());
+    }
+
+    /** Each is forgotten alone: two towns that lacked it lie between two that had it, and one less of these is not enough. */
+    private static void dearestForgetsOneAtATime() {
+        for (int trait = 0; trait <= 5; trait++) {
+            PassedTraits x = Build.towns(4);
+            x.lay(2, 0, 10);
+            x.lay(0, 1, 10);
+            x.lay(1, 3, 10);
+            x.see(2, trait, 50, true);
+            x.see(3, trait, 50, true);
+            x.see(0, trait, 800, false);
+            x.see(1, trait, 900, false);
+            Due.equal("promise 16: two", 2, x.inventions(trait));
+            Due.equal("promise 24: only what is known costs one", 20 + trait, x.dearest());
+            x.see(0, trait, 801, true);
+            x.see(1, trait, 901, true);
+            Due.equal("promise 16: two, from which all are explained", 2, x.inventions(trait));
+            // Without 2, town 0 would still have to have it before 1 could pass it on.
+            Due.equal("promise 24: 3 alone is not needed for others", 30 + trait, x.dearest());
+            Due.equal("promise 8: all is as it was", 800, x.report(0, trait, false));
+            Due.equal("promise 8: all is as it was", 901, x.report(1, trait, true));
+        }
     }
 }
